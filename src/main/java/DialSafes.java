@@ -595,7 +595,7 @@ public final class DialSafes {
             int end = Math.min(length, Math.min(text.length, TAPE_ROOM));
             size = 0;
             next = 0;
-            while (next < end) {
+            for (int taken = 0; taken < end && next < end; taken++) {
                 if (text[next] == ' ' || text[next] == '\n') {
                     next++;
                 } else {

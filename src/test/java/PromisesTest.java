@@ -126,11 +126,15 @@ public final class PromisesTest {
         fault("again 0()again 99()each a 0 0 1()each a 0 0 99()", 0, -1);
         fault("again 1(again 1(again 1(again 1(again 1(feel;)))))again 1(feel;)", 0, -1);
         fault("each a 1 2 1(each b a a+1 1(left 1 a - 999;)each b 1 1 1())each b 1 1 1()", 0, -1);
+        fault("each a 1 1 1(left 1 a+0;right 1 a-0;back a+999;)", 0, -1);
         fault("x", 1, 0);
         fault("Left 1 1;", 1, 0);
         fault("\tfeel;", 1, 0);
         fault("feel;\u00e9", 1, 5);
         fault("feeling;", 1, 0);
+        for (String word : new String[] {"reft", "eight", "pack", "heel", "cry", "bgain", "aach", "lefs", "tri", "fee"}) {
+            fault(word + " 1 1;", 1, 0);
+        }
         fault("a;", 1, 0);
         fault("5;", 1, 0);
         fault("1000;", 1, 0);
@@ -610,6 +614,14 @@ public final class PromisesTest {
         mayBe("18 none is left", x, 0);
         for (int w : new int[] {-1, 1, LEAST, MOST}) Checks.due("18 no such wheel " + w, x.may(w, -1), -1);
         for (int k : new int[] {-2, 1, LEAST, MOST}) Checks.due("18 no such k " + k, x.may(0, k), -1);
+
+        DialSafes low = new DialSafes();
+        low.dial(10);
+        low.wheel(1, 1, 0, 200, 50, 5, 50);
+        Checks.turn(low, "feel;");
+        Checks.due("18 it felt 100", low.feel(0, 0), 100);
+        low.doubt(99);
+        mayBe("18 100 less 99 is above 0", low, 0, 1, 2, 3, 4, 5, 6, 7, 8, 9);
 
         DialSafes y = new DialSafes();
         y.dial(10);
