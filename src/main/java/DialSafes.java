@@ -472,6 +472,8 @@ public final class DialSafes {
             train.numbers = numbers;
             train.size = 0;
             train.goHome();
+            // Another dial has made no step yet, so a back on it goes left as on a new object.
+            train.latestLeft = false;
             hoursHeld = 0;
         }
 

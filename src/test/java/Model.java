@@ -275,6 +275,7 @@ final class Model {
         words.clear();
         changes.clear();
         number = clock = today = 0;
+        latestLeft = null;
         return true;
     }
 

@@ -310,6 +310,30 @@ public final class PromisesTest {
         Checks.yes("5 the greatest", x.dial(100));
         Checks.due("5 places up to 99", x.wheel(1, 99, 0, 200, 0, 99, 0), 0);
         Checks.due("5 no older change", x.gate(0, 999), 99);
+        backOnAnotherDial();
+    }
+
+    /** A step is one of the dial that made it; one that can't be puts no other dial there, and a wheel doesn't either. */
+    private static void backOnAnotherDial() {
+        DialSafes x = new DialSafes();
+        x.step(1);
+        x.dial(20);
+        Checks.turn(x, "back 5;");
+        Checks.due("5 back goes left behind a step left of another dial", x.turned(2), 5);
+        x.step(-5);
+        x.dial(30);
+        Checks.turn(x, "back 5;");
+        Checks.due("5 back goes left behind a step right of another dial", x.turned(2), 5);
+        x.dial(101);
+        Checks.turn(x, "back 6;");
+        Checks.due("5 the dial is the same without another one", x.turned(2), 29);
+        Checks.turn(x, "left 1 7;");
+        x.dial(30);
+        Checks.turn(x, "back 0; back 4;");
+        Checks.due("5 back goes left behind a text's step left, too", x.turned(2), 4);
+        x.wheel(3, 5, 0, 300, 0, 0, 0);
+        Checks.turn(x, "back 4;");
+        Checks.due("6 a wheel leaves the dial's latest step", x.turned(2), 26);
     }
 
     private static void wheel() {
