@@ -1,9 +1,11 @@
 import java.nio.charset.StandardCharsets;
 import java.util.ArrayList;
 import java.util.List;
+import java.util.NoSuchElementException;
 
 /** What the tests share: texts as numbers to feed, and answers held against those that are due. */
 final class Checks {
+    private static final int NONE = DialSafes.NONE;
     private static int wrong = 0;
     private static int asked = 0;
 
@@ -33,6 +35,48 @@ final class Checks {
     static int turn(DialSafes safe, String text) {
         feed(safe, text);
         return safe.turn(text.length());
+    }
+
+    /** Two answers that stand for a throw of look(): no wheel has anything so low. */
+    static final int NO_WHEEL = -1001;
+    static final int NO_WHAT = -1002;
+
+    static int look(DialSafes safe, int wheel, int what) {
+        try {
+            return safe.look(wheel, what);
+        } catch (IndexOutOfBoundsException e) {
+            return e.getClass() == IndexOutOfBoundsException.class ? NO_WHEEL : -1003;
+        } catch (NoSuchElementException e) {
+            return e.getClass() == NoSuchElementException.class ? NO_WHAT : -1004;
+        }
+    }
+
+    /** All that can be asked of how a safe stands, in some 130 calls: two of these fit in an object's 512. */
+    static String stateOf(DialSafes x) {
+        StringBuilder all = new StringBuilder();
+        for (int what = 0; what < 8; what++) all.append(x.count(what)).append(' ');
+        for (int what = 0; what < 5; what++) all.append(x.turned(what)).append(' ');
+        all.append(x.rides()).append(' ').append(x.open()).append('\n');
+        int wheels = x.count(1), feels = x.count(2), today = x.count(6);
+        for (int w = 0; w < wheels; w++) {
+            for (int what = 0; what < 8; what++) all.append(x.look(w, what)).append(' ');
+            all.append(x.comes(w, true)).append(' ').append(x.may(w, NONE)).append(' ').append(x.cover(w, NONE)).append(' ');
+            all.append(x.gate(w, 0)).append(' ').append(x.gate(w, today)).append(' ').append(x.gate(w, 999)).append('\n');
+        }
+        for (int what = 0; what <= wheels && feels > 0; what++) {
+            all.append(x.feel(0, what)).append(' ').append(x.feel(feels - 1, what)).append(' ');
+        }
+        for (int p = 0; p < 6; p++) all.append(x.knows(p, 0, today)).append(' ').append(x.knows(p, today, today)).append(' ');
+        all.append(x.can(0, today)).append(' ').append(x.can(today, today)).append(' ');
+        return all.append(x.seek(0)).append(' ').append(x.seek(3)).append(' ').append(x.best(0)).toString();
+    }
+
+    static void same(String what, String got, String want) {
+        asked++;
+        if (!got.equals(want)) {
+            wrong++;
+            System.out.println(what + ": stands so\n" + got + "\ndue is\n" + want);
+        }
     }
 
     static void due(String what, long got, long want) {
